@@ -1,17 +1,29 @@
-/** Counts the calls of a test whose answer is not the one that is due. */
+/** Counts the answers that are not as due, and tells which sentence of the document they break. */
 final class Check {
     interface Call {
         long answer();
     }
 
+    private String sentence = "";
     private int wrong = 0;
     private int done = 0;
+
+    /** The document's own words that the answers from here on hold, of one place or of two. */
+    void sentence(String... words) {
+        sentence = String.join(" .. ", words);
+    }
 
     void is(String call, long got, long due) {
         done++;
         if (got != due) {
-            wrong++;
-            System.out.println(call + " answered " + got + ", due is " + due);
+            tell(call + " answered " + got + ", due is " + due);
+        }
+    }
+
+    void is(String what, String got, String due) {
+        done++;
+        if (!got.equals(due)) {
+            tell(what + " is\n" + got + "due is\n" + due);
         }
     }
 
@@ -34,8 +46,7 @@ final class Check {
             }
             got = "threw " + e;
         }
-        wrong++;
-        System.out.println(call + " " + got + ", due is " + due.getSimpleName());
+        tell(call + " " + got + ", due is " + due.getSimpleName());
     }
 
     /** A batch's numbers without its BASE: producer, epoch, sequence, LAST, whether known. */
@@ -45,11 +56,32 @@ final class Check {
         }
     }
 
+    /** The log's batches by their BASEs, and that there are no more. */
     void bases(ProducerBook book, long... due) {
-        is("count(0)", book.count(0), due.length);
-        for (int k = 0; k < Math.min(due.length, book.count(0)); k++) {
+        int count = book.count(0);
+        is("count(0)", count, due.length);
+        for (int k = 0; k < Math.min(due.length, count); k++) {
             is("batch(" + k + ", 0)", book.batch(k, 0), due[k]);
         }
+    }
+
+    /** What is known of a producer: how many, epoch, next sequence, BASE of L, BASE of the first. */
+    void known(ProducerBook book, long producer, long... due) {
+        for (int what = 0; what < due.length; what++) {
+            is("known(" + producer + ", " + what + ")", book.known(producer, what), due[what]);
+        }
+    }
+
+    /** Batches, known producers, END. */
+    void counts(ProducerBook book, long... due) {
+        for (int what = 0; what < due.length; what++) {
+            is("count(" + what + ")", book.count(what), due[what]);
+        }
+    }
+
+    private void tell(String text) {
+        wrong++;
+        System.out.println("\"" + sentence + "\": " + text);
     }
 
     void end() {
