@@ -3,6 +3,7 @@ import java.lang.reflect.Field;
 import java.lang.reflect.Member;
 import java.lang.reflect.Method;
 import java.lang.reflect.Modifier;
+import java.util.Collections;
 import java.util.Set;
 import java.util.TreeSet;
 
@@ -34,12 +35,45 @@ public final class FaceTest {
         for (Method method : ProducerBook.class.getDeclaredMethods()) {
             note(seen, method, method.toString());
         }
-        boolean isFinal = Modifier.isFinal(ProducerBook.class.getModifiers());
-        if (!isFinal || !seen.equals(DUE)) {
+        if (!seen.equals(DUE)) {
             System.out.println("the face is " + seen + ", due is " + new TreeSet<>(DUE));
             System.exit(1);
         }
+        if (!isPublicAndFinal() || !classesInsideAreHidden() || !namesAreApart()) {
+            System.out.println("the class is not public and final without a package, or a class"
+                    + " inside it is seen or not static, or a private method has a public one's name");
+            System.exit(1);
+        }
         System.out.println("the face is as due");
+    }
+
+    private static boolean isPublicAndFinal() {
+        int modifiers = ProducerBook.class.getModifiers();
+        return Modifier.isPublic(modifiers) && Modifier.isFinal(modifiers)
+                && ProducerBook.class.getPackageName().isEmpty()
+                && ProducerBook.class.getSuperclass() == Object.class
+                && ProducerBook.class.getInterfaces().length == 0;
+    }
+
+    private static boolean classesInsideAreHidden() {
+        for (Class<?> inside : ProducerBook.class.getDeclaredClasses()) {
+            int modifiers = inside.getModifiers();
+            if (Modifier.isPublic(modifiers) || Modifier.isProtected(modifiers)
+                    || !Modifier.isStatic(modifiers)) {
+                return false;
+            }
+        }
+        return true;
+    }
+
+    private static boolean namesAreApart() {
+        Set<String> ofPublic = new TreeSet<>();
+        Set<String> ofPrivate = new TreeSet<>();
+        for (Method method : ProducerBook.class.getDeclaredMethods()) {
+            boolean isPublic = Modifier.isPublic(method.getModifiers());
+            (isPublic ? ofPublic : ofPrivate).add(method.getName());
+        }
+        return Collections.disjoint(ofPublic, ofPrivate);
     }
 
     private static void note(Set<String> seen, Member member, String text) {
